@@ -981,6 +981,7 @@ public final class HutLift {
 
     private static final class Packer {
         final ArrayList<Load> packed = new ArrayList<>();
+        /** Of each net; what is tried is taken out again, so that all are empty between two calls. */
         final int[] weights = new int[MOST_PACKED];
         final int[] rooms = new int[MOST_PACKED];
         int lift;
@@ -1022,10 +1023,6 @@ public final class HutLift {
             // one that goes alone fills a net, so that it fits no other and none fits it
             int room = load.hangsAlone() ? MOST_ROOM : load.room;
             for (int net = 0; net <= nets && net < MOST_PACKED; net++) {
-                if (net == nets) {
-                    weights[net] = 0;
-                    rooms[net] = 0;
-                }
                 if (weights[net] + load.weight <= lift && rooms[net] + room <= MOST_ROOM) {
                     weights[net] += load.weight;
                     rooms[net] += room;

@@ -157,6 +157,21 @@ public final class MakingTest {
         DUE.is("hour 11 is warm", x.lift(0, 0, 11), 41);
     }
 
+    private static void hoursAtFirst() {
+        HutLift x = new HutLift();
+        x.place(0, 1);
+        x.machine(50, 100);
+        x.pilot(1, 0);
+        Due.rule(x, "w");
+        Due.rule(x, "t");
+        Due.rule(x, "s");
+        int[] first = {0, 0, 9};
+        for (int hour = 0; hour < 12; hour++) {
+            weather(x, "at first in hour " + hour, first);
+            x.minute(60);
+        }
+    }
+
     private static void weather(HutLift x, String when, int[] want) {
         for (int i = 0; i < 3; i++) {
             DUE.is("weather " + when + ", " + i, x.says(i, 0, 0, 1), want[i]);
@@ -171,6 +186,7 @@ public final class MakingTest {
         x.pilot(1, 0);
         Due.rule(x, "h");
         Due.rule(x, "m");
+        hoursAtFirst();
         x.hour(11, 0, 7, 0);
         Due.pass(x, 59);
         DUE.is("minute 59 is in hour 0", x.says(0, 0, 0, 1), 0);

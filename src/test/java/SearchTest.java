@@ -328,6 +328,10 @@ public final class SearchTest {
         list(x, 1);
         DUE.is("with a rider it could not be", x.may(0, 0, 1), 6);
         orderIs(x, "without riders", 0, 0, 22, 1);
+        Due.rule(x, "n l + k + !");
+        list(x, 1);
+        DUE.is("something hangs on the other machine", x.says(0, 1, 0, 1), 0);
+        orderIs(x, "nothing on this one", 0, 0, 22, 1);
     }
 
     /** The one that can be but at some minutes has its place among the others by them. */

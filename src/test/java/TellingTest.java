@@ -138,6 +138,10 @@ public final class TellingTest {
         y.hang(0, 0);
         y.fly(0, 1, 2);
         DUE.is("one alone has all, of the doubled way", y.cargo(0, 5), 14);
+        y.load(40101, 1, 0, 9);
+        y.minute(14);
+        y.fly(1, 0, 1);
+        DUE.is("a light rider alone has all", y.cargo(1, 5), 22);
     }
 
     private static void costOfNone() {
