@@ -11,6 +11,8 @@ public final class HutLift {
     private static final int LAST_MINUTE = 720;
     private static final int LAST_HOUR = 11;
     private static final int HOUR_LENGTH = 60;
+    /** Behind every minute that there is, also behind the end of the longest rest. */
+    private static final int NEVER = 9999;
 
     private static final int MOST_PLACES = 12;
     private static final int MOST_MACHINES = 4;
@@ -917,9 +919,13 @@ public final class HutLift {
         /** The first minute from .. last at which all rules hold, or -1. */
         int firstMinute(Weather weather, int from, int last) {
             int now = from;
+            int broken = -1;
             while (now <= last) {
                 setTime(weather, now);
-                int broken = firstBroken();
+                // the rule that did not hold a minute ago is asked alone: mostly it does not hold now either
+                if (broken < 0 || workOut(rules.get(broken)) != 0) {
+                    broken = firstBroken();
+                }
                 if (broken < 0) {
                     return now;
                 }
@@ -1037,9 +1043,10 @@ public final class HutLift {
     private static final class OrderSearch {
         /** THE LIST, kept by numbers, so that the first order of all is tried first. */
         final Place[] wanted = new Place[MOST_LISTED];
-        final boolean[] taken = new boolean[MOST_LISTED];
         final int[] tried = new int[MOST_LISTED];
         final int[] found = new int[MOST_LISTED];
+        /** Of each set of places (a bit for each one in wanted): the least minute from which on the rest was tried. */
+        final int[] earliest = new int[1 << MOST_LISTED];
         int size;
         int foundSize;
         int rest;
@@ -1073,7 +1080,10 @@ public final class HutLift {
         boolean findOrder(RuleBook book, Weather weather, Pilot pilot, int ready) {
             rest = pilot.rest;
             best = LAST_MINUTE + 1;
-            extend(book, weather, 0, ready, pilot.flown);
+            for (int i = 0; i < earliest.length; i++) {
+                earliest[i] = NEVER;
+            }
+            extend(book, weather, 0, 0, ready, pilot.flown);
             if (best > LAST_MINUTE) {
                 return false;
             }
@@ -1082,39 +1092,47 @@ public final class HutLift {
             return true;
         }
 
-        /** Tries each place that is left as the next one; depth is how many stand ahead of it. */
-        private void extend(RuleBook book, Weather weather, int depth, int ready, int flown) {
-            for (int i = 0; i < size && depth < size; i++) {
-                if (taken[i] || isSameAsUntaken(i)) {
+        /** Tries each place that is left as the next one; depth is how many are taken, each a bit of taken. */
+        private void extend(RuleBook book, Weather weather, int depth, int taken, int ready, int flown) {
+            // where the same places were flown by then in an order ahead of this one, none found here can be better
+            if (depth >= size || taken >= earliest.length || ready >= earliest[taken]) {
+                return;
+            }
+            earliest[taken] = ready;
+            for (int i = 0; i < size; i++) {
+                if (isTaken(taken, i) || isSameAsUntaken(taken, i)) {
                     continue;
                 }
                 Place goal = wanted[i];
                 int minutes = goal.minutesThereAndBack();
-                taken[i] = true;
+                int then = taken | 1 << i;
                 tried[depth] = goal.number;
                 book.setGoal(goal);
                 book.setFlown(flown);
                 // a later begin could not end ahead of the best order, even if no rule held up the rest
-                int begin = book.firstMinute(weather, ready, best - 1 - minutes - leastMinutesLeft());
+                int begin = book.firstMinute(weather, ready, best - 1 - minutes - leastMinutesLeft(then));
                 if (begin >= 0 && depth == size - 1) {
                     best = begin + minutes;
                     System.arraycopy(tried, 0, found, 0, size);
                 } else if (begin >= 0) {
-                    extend(book, weather, depth + 1, begin + minutes + rest, flown + minutes);
+                    extend(book, weather, depth + 1, then, begin + minutes + rest, flown + minutes);
                 }
-                taken[i] = false;
             }
         }
 
-        /** The same place would only give the same orders again. */
-        private boolean isSameAsUntaken(int i) {
-            return i > 0 && !taken[i - 1] && wanted[i - 1].number == wanted[i].number;
+        private static boolean isTaken(int taken, int i) {
+            return (taken >> i & 1) == 1;
         }
 
-        private int leastMinutesLeft() {
+        /** The same place would only give the same orders again. */
+        private boolean isSameAsUntaken(int taken, int i) {
+            return i > 0 && !isTaken(taken, i - 1) && wanted[i - 1].number == wanted[i].number;
+        }
+
+        private int leastMinutesLeft(int taken) {
             int minutes = 0;
             for (int i = 0; i < size; i++) {
-                minutes += taken[i] ? 0 : rest + wanted[i].minutesThereAndBack();
+                minutes += isTaken(taken, i) ? 0 : rest + wanted[i].minutesThereAndBack();
             }
             return minutes;
         }

@@ -26,9 +26,11 @@ public final class MakingEdgesTest {
         loadsAre0To79();
         hourIs0To11();
         weatherIsMinus1To9();
+        weatherAtFirst();
         weatherNotKnown();
         hoursHave60Minutes();
         liftIs0AtLeast();
+        answersUpTo512Calls();
         DUE.end();
     }
 
@@ -86,6 +88,9 @@ public final class MakingEdgesTest {
             x.place(height, 1);
             x.machine(100, 100);
             DUE.is("LIFT at HEIGHT " + height, x.lift(0, 1, 0), 100 - 4 * height);
+            x.pilot(9, 0);
+            Due.rule(x, "e");
+            DUE.is("e of HEIGHT " + height, x.says(0, 0, 0, 1), height);
         }
     }
 
@@ -336,14 +341,21 @@ public final class MakingEdgesTest {
         BUSY.range("hour(0, 0, _, 0)", -1, 9, NONE, (x, n) -> x.hour(0, 0, n, 0));
         BUSY.range("hour(0, 0, 0, _)", -1, 9, NONE, (x, n) -> x.hour(0, 0, 0, n));
         HutLift x = Scenes.hut(1);
-        DUE.is("WIND at first", saidOf(x, "w"), 0);
-        DUE.is("WARMTH at first", saidOf(x, "t"), 0);
-        DUE.is("SIGHT at first", saidOf(x, "s"), 9);
         for (int n = 0; n <= 9; n++) {
             DUE.is("hour", x.hour(0, n, 9 - n, (n + 5) % 10), 1);
             DUE.is("WIND", saidOf(x, "w"), n);
             DUE.is("WARMTH", saidOf(x, "t"), 9 - n);
             DUE.is("SIGHT", saidOf(x, "s"), (n + 5) % 10);
+        }
+    }
+
+    private static void weatherAtFirst() {
+        HutLift x = Scenes.hut(1);
+        for (int hour = 0; hour < 12; hour++) {
+            DUE.is("WIND at first in HOUR " + hour, saidOf(x, "w"), 0);
+            DUE.is("WARMTH at first in HOUR " + hour, saidOf(x, "t"), 0);
+            DUE.is("SIGHT at first in HOUR " + hour, saidOf(x, "s"), 9);
+            x.minute(60);
         }
     }
 
@@ -400,5 +412,13 @@ public final class MakingEdgesTest {
         DUE.is("in the VALLEY, BASE 1, WARMTH 2", x.lift(3, 0, 2), 0);
         Due.pass(x, 180);
         DUE.is("in the VALLEY now, BASE 1, WARMTH 9", x.about(3, 4), 0);
+    }
+
+    private static void answersUpTo512Calls() {
+        HutLift x = new HutLift();
+        for (int call = 1; call <= 511; call++) {
+            DUE.is("call " + call, x.minute(1), call);
+        }
+        DUE.is("call 512", x.count(6), 511);
     }
 }

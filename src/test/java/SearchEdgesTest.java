@@ -355,6 +355,7 @@ public final class SearchEdgesTest {
     private static void orderAtTheFirstMinute() {
         orderIs("at 0", ruled("m0=", 1), 4, 1);
         orderIs("at 1", ruled("m0>", 1), 5, 1);
+        orderIs("at 1 by m alone", ruled("m", 1), 5, 1);
         orderIs("at 300 alone", ruled("m300=", 1), 304, 1);
         orderIs("at 716", ruled("m715>", 1), 720, 1);
         DUE.is("at 717", ruled("m716>", 1).order(0, 0), STATE);
@@ -369,8 +370,10 @@ public final class SearchEdgesTest {
     }
 
     private static void orderAtTheFirstMinuteOfAnHour() {
-        orderIs("HOUR 3", ruled("h3=", 1), 184, 1);
-        orderIs("HOUR 11", ruled("h11=", 1), 664, 1);
+        for (int hour = 0; hour < 12; hour++) {
+            orderIs("HOUR " + hour, ruled("h" + hour + "=", 1), 60 * hour + 4, 1);
+            orderIs("HOUR " + hour + " from 7 on", at(ruled("h" + hour + "=", 1), 7), Math.max(7, 60 * hour) + 4, 1);
+        }
         orderIs("the last minute of HOUR 0", at(ruled("h0=", 1), 59), 63, 1);
         DUE.is("behind HOUR 0", at(ruled("h0=", 1), 60).order(0, 0), STATE);
         HutLift x = ruled("w5<s3>&t4<&", 1);
@@ -404,6 +407,12 @@ public final class SearchEdgesTest {
         HutLift z = ruled("n!l!&k!&", 1);
         z.load(40101, 9, 0, 0);
         orderIs("n, l and k are 0", z, 4, 1);
+        HutLift other = ruled("n!l!&k!&", 1);
+        other.machine(200, 2000);
+        other.load(20101, 9, 0, 0);
+        other.hang(1, 0);
+        DUE.is("something hangs on another MACHINE", other.says(0, 1, 0, 1), 0);
+        orderIs("n, l and k are 0 all the same", other, 4, 1);
     }
 
     private static void orderOfTwoAlike() {

@@ -25,6 +25,7 @@ public final class WhyEdgesTest {
         why8Cold();
         why8OnlyCold();
         why10AndRules();
+        why10OfThisFlight();
         firstWhyOfTwo();
         DUE.end();
     }
@@ -317,6 +318,14 @@ public final class WhyEdgesTest {
         why("SET 90 behind READY 0", 0, () -> readyOf(2, 0, 80));
         why("SET 91 behind READY 0", 8, () -> readyOf(2, 0, 81));
         why("SET just behind READY", 0, () -> readyOf(2, 500, 500));
+        for (int first = 0; first < 3; first++) {
+            HutLift x = Scenes.hutAt(10, 81);
+            for (int i = 0; i < 3; i++) {
+                x.load(i == first ? 20101 : 101, 5, 0, 720);
+                x.hang(0, i);
+            }
+            DUE.is("one COLD one, hung as " + first + " of 3", x.may(0, 0, 1), 8);
+        }
     }
 
     private static void why8OnlyCold() {
@@ -349,6 +358,27 @@ public final class WhyEdgesTest {
         HutLift x = ruled(9, 10);
         x.drop();
         DUE.is("RULE 9 is gone", x.may(0, 0, 1), 0);
+    }
+
+    /** RULES see the machine, the pilot and the place that are asked about, whatever was asked ahead of it. */
+    private static void why10OfThisFlight() {
+        HutLift x = Scenes.hut(1);
+        x.place(4, 2);
+        x.machine(100, 1000);
+        x.pilot(720, 0);
+        x.load(201, 7, 0, 720);
+        x.hang(1, 0);
+        x.fly(0, 1, 1);
+        x.minute(4);
+        Due.rule(x, "p2=e4=&");
+        Due.rule(x, "l7=n1=&");
+        Due.rule(x, "f4=m4=&");
+        DUE.is("all three hold", x.may(1, 1, 2), 0);
+        DUE.is("RULE 0 gives 0", x.may(0, 1, 1), 10);
+        DUE.is("all three hold still", x.may(1, 1, 2), 0);
+        DUE.is("RULE 1 gives 0", x.may(0, 1, 2), 11);
+        DUE.is("RULE 2 gives 0", x.may(1, 0, 2), 12);
+        DUE.is("all three hold at last", x.fly(1, 1, 2), 1);
     }
 
     /** Where a WHY and the next one hold, the lesser is told. */
