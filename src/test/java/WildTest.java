@@ -46,8 +46,8 @@ public final class WildTest {
 
     /** Where there is nothing, every call about something is refused. */
     private static void refusedAtFirst() {
-        HutLift x = new HutLift();
         for (int n : EDGES) {
+            HutLift x = new HutLift();
             DUE.is("hang", x.hang(n, n), HutLift.NONE);
             DUE.is("off", x.off(n), HutLift.NONE);
             DUE.is("may", x.may(n, n, n), HutLift.NONE);
@@ -64,9 +64,9 @@ public final class WildTest {
             DUE.is("ordered", x.ordered(n), HutLift.NONE);
             DUE.is("says", x.says(n, n, n, n), -2000000000);
             DUE.is("load", x.load(n, 1, 0, 0), HutLift.NONE);
-        }
-        for (int what = 0; what < 10; what++) {
-            DUE.is("count(" + what + ")", x.count(what), what == 0 ? 1 : 0);
+            for (int what = 0; what < 10; what++) {
+                DUE.is("count(" + what + ")", x.count(what), what == 0 ? 1 : 0);
+            }
         }
     }
 }
