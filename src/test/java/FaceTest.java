@@ -20,7 +20,9 @@ public final class FaceTest {
         constants();
         face();
         nestedClasses();
-        text(Files.readString(Path.of("src/main/java/HutLift.java")));
+        String source = Files.readString(Path.of("src/main/java/HutLift.java"));
+        text(source);
+        sizes(source);
         DUE.end();
     }
 
@@ -95,5 +97,45 @@ public final class FaceTest {
                 DUE.holds("a character beyond ASCII: " + (int) c, false);
             }
         }
+    }
+
+    /** Rule 11: short methods, few parameters, few fields. */
+    private static void sizes(String source) {
+        Pattern head = Pattern.compile(" +(public |private |static |final )*[\\w<>\\[\\]]+ ?\\w*\\([^;]*\\) \\{");
+        String name = "";
+        String close = "";
+        int from = -1;
+        int at = 0;
+        int methods = 0;
+        for (String line : source.split("\n")) {
+            at++;
+            boolean opens = head.matcher(line).matches() && !line.matches(" *(\\} )?(if|for|while|switch|else|return)\\b.*");
+            if (opens) {
+                name = line.trim();
+                close = line.substring(0, line.length() - line.stripLeading().length()) + "}";
+                from = at;
+                methods++;
+            }
+            if (from >= 0 && line.equals(close)) {
+                DUE.holds(name + " is too long", at - from < 60);
+                from = -1;
+            }
+        }
+        DUE.holds("methods seen: " + methods, methods > 60);
+        DUE.holds("HutLift has too many fields", ownFields(HutLift.class) <= 20);
+        for (Class<?> c : HutLift.class.getDeclaredClasses()) {
+            DUE.holds(c.getName() + " has too many fields", ownFields(c) <= 20);
+        }
+        for (Method m : HutLift.class.getDeclaredMethods()) {
+            DUE.holds(m.getName() + " takes too many", m.getParameterCount() <= 7);
+        }
+    }
+
+    private static int ownFields(Class<?> c) {
+        int fields = 0;
+        for (Field f : c.getDeclaredFields()) {
+            fields += Modifier.isStatic(f.getModifiers()) ? 0 : 1;
+        }
+        return fields;
     }
 }
